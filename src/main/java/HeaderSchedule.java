@@ -304,17 +304,6 @@ public final class HeaderSchedule {
         return (int) (data >>> (8 * k)) & BYTE;
     }
 
-    private static int checksum(long data, int length, int firstSum) {
-        int sum = firstSum;
-        for (int k = 0; k < length; k++) {
-            sum += byteOf(data, k);
-            if (sum > BYTE) {
-                sum -= BYTE;
-            }
-        }
-        return BYTE - sum;
-    }
-
     private int runSlot(Entry entry) {
         wire.clear();
         switch (entry.kind) {
@@ -405,7 +394,14 @@ public final class HeaderSchedule {
         }
 
         int checksumUnder(int sentHeader, long bytes) {
-            return checksum(bytes, length, enhanced ? sentHeader : 0);
+            int sum = enhanced ? sentHeader : 0;
+            for (int k = 0; k < length; k++) {
+                sum += byteOf(bytes, k);
+                if (sum > BYTE) {
+                    sum -= BYTE;
+                }
+            }
+            return BYTE - sum;
         }
     }
 
@@ -659,10 +655,11 @@ public final class HeaderSchedule {
             noiseByte = NONE;
         }
 
+        /** Only for a length that a frame can have. */
         long dataOf(int length) {
             long data = 0L;
             for (int k = length; k >= 1; k--) {
-                data = (data << 8) | byteAt(k);
+                data = (data << 8) | bytes[k];
             }
             return data;
         }

@@ -92,6 +92,7 @@ public final class MakingTest {
         check.due("common highest bit", x.signal(0, 23, 1, 0), NONE);
         check.due("inside the other", x.signal(0, 12, 2, 0), NONE);
         check.due("beside the other", x.signal(0, 7, 1, 1), 1);
+        check.due("in the first of two", x.signal(0, 20, 2, 0), NONE);
         check.due("around another", x.signal(0, 6, 3, 1), NONE);
         check.due("same bits, other frame", x.signal(1, 8, 16, 1), 2);
         check.due("the last bits of 64", x.signal(1, 48, 16, 40000), 3);
@@ -113,10 +114,13 @@ public final class MakingTest {
         HeaderSchedule x = new HeaderSchedule();
         x.frame(1, 1, 2, false);
         x.frame(2, 2, 2, false);
+        check.due("before it is associated", x.signal(1, 8, 4, 1), 0);
         x.event(3, 0, 1, NONE, 1);
         check.due("in byte 0", x.signal(0, 0, 1, 0), NONE);
         check.due("with its first bit in byte 0", x.signal(1, 7, 2, 0), NONE);
-        check.due("from bit 8 on", x.signal(0, 8, 8, 3), 0);
+        check.due("on the signal from before", x.signal(1, 11, 2, 0), NONE);
+        check.due("beside it", x.signal(1, 12, 4, 0), 1);
+        check.due("from bit 8 on", x.signal(0, 8, 8, 3), 2);
         check.due("one bit too far", x.signal(1, 9, 8, 0), NONE);
     }
 
