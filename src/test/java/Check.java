@@ -1,18 +1,40 @@
 /** Counts the answers that are not as due, and ends a test with exit code 1 if there was one. */
 final class Check {
+    private final String where;
     private int calls = 0;
     private int wrong = 0;
+
+    Check() {
+        this("");
+    }
+
+    /** Every line that is printed begins with where. */
+    Check(String where) {
+        this.where = where;
+    }
+
+    int calls() {
+        return calls;
+    }
+
+    int wrong() {
+        return wrong;
+    }
 
     void due(String call, int got, int want) {
         calls++;
         if (got != want) {
             wrong++;
-            System.out.println(call + " answered " + got + ", due is " + want);
+            System.out.println(where + call + " answered " + got + ", due is " + want);
         }
     }
 
     void due(String call, boolean got, boolean want) {
         due(call, got ? 1 : 0, want ? 1 : 0);
+    }
+
+    void none(String call, int got) {
+        due(call, got, HeaderSchedule.NONE);
     }
 
     void yes(String call, boolean got) {
