@@ -114,4 +114,22 @@ final class Scenes {
         x.start(0);
         return x;
     }
+
+    /**
+     * Frames 0, 1, 2 of the slaves 1, 2, 3 with these identifiers, of this length; signal i is byte 1 of frame i and
+     * 10 + i. Event frame 0 of all three, alone in table 0 for a tick; table 1 resolves: frames 0, 1, 2, for 1 each.
+     * Started with table 0. The length is 2 at least.
+     */
+    static HeaderSchedule threeSlaves(int event, boolean enhanced, int length, int... identifiers) {
+        HeaderSchedule x = new HeaderSchedule();
+        for (int i = 0; i < 3; i++) {
+            x.frame(identifiers[i], 1 + i, length, enhanced);
+            x.signal(i, 8, 8, 10 + i);
+            x.entry(1, 0, i, 1);
+        }
+        x.event(event, 0, 1, 2, 1);
+        x.entry(0, 2, 0, 1);
+        x.start(0);
+        return x;
+    }
 }
