@@ -1,56 +1,39 @@
 /** Promises 13, 15, 16 and the slots of frames and sporadic groups: the bytes on the bus, noise, and the counts. */
 public final class BusTest {
     private static final int NONE = HeaderSchedule.NONE;
-    private static final int[] PROTECTED = {
-        0x80, 0xC1, 0x42, 0x03, 0xC4, 0x85, 0x06, 0x47, 0x08, 0x49, 0xCA, 0x8B, 0x4C, 0x0D, 0x8E, 0xCF,
-        0x50, 0x11, 0x92, 0xD3, 0x14, 0x55, 0xD6, 0x97, 0xD8, 0x99, 0x1A, 0x5B, 0x9C, 0xDD, 0x5E, 0x1F,
-        0x20, 0x61, 0xE2, 0xA3, 0x64, 0x25, 0xA6, 0xE7, 0xA8, 0xE9, 0x6A, 0x2B, 0xEC, 0xAD, 0x2E, 0x6F,
-        0xF0, 0xB1, 0x32, 0x73, 0xB4, 0xF5, 0x76, 0x37, 0x78, 0x39, 0xBA, 0xFB,
-    };
     private final Check check = new Check();
 
     private void protectedIdentifiers() {
-        for (int i = 0; i < PROTECTED.length; i++) {
+        for (int i = 0; i < 60; i++) {
             HeaderSchedule x = new HeaderSchedule();
             x.frame(i, 1, 1, false);
             x.entry(0, 0, 0, 1);
             x.start(0);
             check.ticks(x, 1);
-            check.bytes(x, PROTECTED[i], 255, 0);
+            check.bytes(x, Scenes.protect(i), 255, 0);
         }
-    }
-
-    private static HeaderSchedule oneFrame(boolean enhanced, int... values) {
-        HeaderSchedule x = new HeaderSchedule();
-        x.frame(8, 2, values.length, enhanced);
-        for (int i = 0; i < values.length; i++) {
-            x.signal(0, 8 * i, 8, values[i]);
-        }
-        x.entry(0, 0, 0, 1);
-        x.start(0);
-        return x;
     }
 
     private void checksums() {
-        HeaderSchedule zero = oneFrame(false, 0);
+        HeaderSchedule zero = Scenes.oneFrame(false, 0);
         check.ticks(zero, 1);
         check.bytes(zero, 8, 0, 255);
-        HeaderSchedule full = oneFrame(false, 255, 0);
+        HeaderSchedule full = Scenes.oneFrame(false, 255, 0);
         check.ticks(full, 1);
         check.bytes(full, 8, 255, 0, 0);
-        HeaderSchedule over = oneFrame(false, 255, 1);
+        HeaderSchedule over = Scenes.oneFrame(false, 255, 1);
         check.ticks(over, 1);
         check.bytes(over, 8, 255, 1, 254);
-        HeaderSchedule enhanced = oneFrame(true, 0, 0);
+        HeaderSchedule enhanced = Scenes.oneFrame(true, 0, 0);
         check.ticks(enhanced, 1);
         check.bytes(enhanced, 8, 0, 0, 247);
-        HeaderSchedule just = oneFrame(true, 247);
+        HeaderSchedule just = Scenes.oneFrame(true, 247);
         check.ticks(just, 1);
         check.bytes(just, 8, 247, 0);
-        HeaderSchedule more = oneFrame(true, 248);
+        HeaderSchedule more = Scenes.oneFrame(true, 248);
         check.ticks(more, 1);
         check.bytes(more, 8, 248, 254);
-        HeaderSchedule eight = oneFrame(true, 255, 255, 255, 255, 255, 255, 255, 254);
+        HeaderSchedule eight = Scenes.oneFrame(true, 255, 255, 255, 255, 255, 255, 255, 254);
         check.ticks(eight, 1);
         check.bytes(eight, 8, 255, 255, 255, 255, 255, 255, 255, 254, 248);
     }
@@ -71,7 +54,7 @@ public final class BusTest {
     }
 
     private void busArguments() {
-        HeaderSchedule x = oneFrame(false, 1, 2, 3, 4, 5, 6, 7, 8);
+        HeaderSchedule x = Scenes.oneFrame(false, 1, 2, 3, 4, 5, 6, 7, 8);
         check.due("no slot yet", x.bus(0), NONE);
         check.ticks(x, 1);
         check.bytes(x, 8, 1, 2, 3, 4, 5, 6, 7, 8, 219);
@@ -105,7 +88,7 @@ public final class BusTest {
     }
 
     private void noiseArguments() {
-        HeaderSchedule x = oneFrame(false, 1);
+        HeaderSchedule x = Scenes.oneFrame(false, 1);
         check.no("byte -1", x.noise(-1, 1));
         check.no("byte 9", x.noise(9, 1));
         check.no("mask 0", x.noise(0, 0));
@@ -126,7 +109,7 @@ public final class BusTest {
 
     private void noiseInEachByte() {
         for (int k = 0; k <= 8; k++) {
-            HeaderSchedule x = oneFrame(true, 1, 2, 3, 4, 5, 6, 7, 8);
+            HeaderSchedule x = Scenes.oneFrame(true, 1, 2, 3, 4, 5, 6, 7, 8);
             int clean = new int[] {1, 2, 3, 4, 5, 6, 7, 8, 211}[k];
             x.write(0, 1);
             check.yes("noise in byte " + k, x.noise(k, 0x81));
@@ -140,7 +123,7 @@ public final class BusTest {
     }
 
     private void noiseThatIsNotSeen() {
-        HeaderSchedule x = oneFrame(false, 0, 3);
+        HeaderSchedule x = Scenes.oneFrame(false, 0, 3);
         x.write(0, 0);
         x.noise(0, 255);
         check.ticks(x, 1);
@@ -148,15 +131,15 @@ public final class BusTest {
         check.no("received", x.pending(0));
         check.ticks(x, 1);
         check.due("written is still 0", x.read(0), 0);
-        HeaderSchedule alone = oneFrame(false, 0);
+        HeaderSchedule alone = Scenes.oneFrame(false, 0);
         alone.noise(0, 255);
         check.ticks(alone, 3);
-        HeaderSchedule none = oneFrame(false, 0);
+        HeaderSchedule none = Scenes.oneFrame(false, 0);
         none.noise(2, 255);
         check.ticks(none, 1);
         check.bytes(none, 8, 0, 255);
         check.ticks(none, 1);
-        HeaderSchedule far = oneFrame(false, 1, 2, 3);
+        HeaderSchedule far = Scenes.oneFrame(false, 1, 2, 3);
         far.noise(4, 1);
         check.ticks(far, 1, 1);
         far.noise(3, 1);

@@ -10,6 +10,7 @@ final class Check {
 
     /** Every line that is printed begins with where. */
     Check(String where) {
+        Watch.begin();
         this.where = where;
     }
 

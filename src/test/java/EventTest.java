@@ -3,25 +3,9 @@ public final class EventTest {
     private static final int NONE = HeaderSchedule.NONE;
     private final Check check = new Check();
 
-    /**
-     * The frames 0, 1, 2 of the slaves 1, 2, 3 with these identifiers, each with signal 0, 1, 2 in its byte 1; event
-     * frame 0 with identifier 3 (protected: 3) in table 0, for a tick; table 1 resolves.
-     */
+    /** Event frame 0 with identifier 3 (protected: 3), of frames with these identifiers and of 2 bytes. */
     private static HeaderSchedule three(boolean enhanced, int first, int second, int third) {
-        HeaderSchedule x = new HeaderSchedule();
-        x.frame(first, 1, 2, enhanced);
-        x.frame(second, 2, 2, enhanced);
-        x.frame(third, 3, 2, enhanced);
-        for (int i = 0; i < 3; i++) {
-            x.signal(i, 8, 8, 10 + i);
-        }
-        x.event(3, 0, 1, 2, 1);
-        x.entry(0, 2, 0, 1);
-        for (int i = 0; i < 3; i++) {
-            x.entry(1, 0, i, 1);
-        }
-        x.start(0);
-        return x;
+        return Scenes.threeSlaves(3, enhanced, 2, first, second, third);
     }
 
     private void nobodyResponds() {

@@ -158,8 +158,25 @@ public final class Promise03SignalTest {
         HeaderSchedule x = Scenes.made();
         check.none("refused", x.signal(0, 4, 5, 0));
         check.due("beside it, the bits are free", x.signal(0, 4, 4, 0), 4);
+        check.none("the first of two", x.signal(0, 15, 1, 0));
+        check.none("the second of two", x.signal(0, 3, 2, 0));
+        check.due("beside both", x.signal(0, 0, 4, 0), 5);
         check.due("the same bits of another frame", oneOfTwo().signal(1, 8, 8, 0), 1);
         check.none("of the same", oneOfTwo().signal(0, 8, 8, 0));
+    }
+
+    /** Signals that were there before a frame was associated are there afterwards. */
+    private static void bitInCommonWithAnEarlierOne(Check check) {
+        HeaderSchedule x = new HeaderSchedule();
+        x.frame(1, 1, 2, false);
+        x.frame(2, 2, 2, false);
+        x.signal(0, 8, 4, 0);
+        x.signal(1, 12, 4, 0);
+        x.event(3, 0, 1, NONE, 0);
+        check.none("its last bit", x.signal(0, 11, 2, 0));
+        check.none("its first bit", x.signal(1, 11, 2, 0));
+        check.due("behind it", x.signal(0, 12, 4, 0), 2);
+        check.due("before it", x.signal(1, 8, 4, 0), 3);
     }
 
     private static HeaderSchedule oneOfTwo() {
@@ -199,6 +216,8 @@ public final class Promise03SignalTest {
         section.sentence("it has a bit in common with another signal", Promise03SignalTest::bitInCommon);
         section.sentence("it has a bit in common with another signal of the frame",
             Promise03SignalTest::bitInCommonRefused);
+        section.sentence("when the frame is associated), it has a bit in common with another signal of the frame",
+            Promise03SignalTest::bitInCommonWithAnEarlierOne);
         section.sentence("the value is not 0 .. 2^width - 1", Promise03SignalTest::value);
         section.end();
     }

@@ -311,6 +311,31 @@ public final class TermsScheduleTest {
         }
     }
 
+    /** Two of the four things are due at one boundary: which one shows, and what becomes of the other. */
+    private static void inThisOrder(Check check) {
+        HeaderSchedule oneAndThree = started(2);
+        writeBoth(oneAndThree);
+        check.ticks(oneAndThree, 4);
+        oneAndThree.request(0);
+        resolves(check, oneAndThree);
+        check.ticks(oneAndThree, 1);
+        at(check, oneAndThree, 0, 1, 0x08);
+
+        HeaderSchedule twoAndFour = started(2);
+        writeBoth(twoAndFour);
+        check.ticks(twoAndFour, 4);
+        resolves(check, twoAndFour);
+        check.ticks(twoAndFour, 2);
+        at(check, twoAndFour, 2, 1, 0x03);
+
+        HeaderSchedule threeAndFour = started(0);
+        check.ticks(threeAndFour, 1, 2, 0, 1);
+        at(check, threeAndFour, 0, 3, 0x0D);
+        threeAndFour.request(1);
+        check.ticks(threeAndFour, 1);
+        at(check, threeAndFour, 1, 1, 0x42);
+    }
+
     private static void allOfItAtThisTick(Check check) {
         HeaderSchedule x = Scenes.started();
         x.write(0, 33);
@@ -365,6 +390,7 @@ public final class TermsScheduleTest {
         section.sentence("A tick at which no slot is under way is a BOUNDARY", TermsScheduleTest::noSlotUnderWay);
         section.sentence("so is the first tick after start()", TermsScheduleTest::firstTickAfterStart);
         section.sentence("so is the first tick -- after wake()", TermsScheduleTest::firstTickAfterWake);
+        section.sentence("At a boundary, in this order", TermsScheduleTest::inThisOrder);
         section.sentence("(4) when all entries of the present table were done, its first is next again.",
             TermsScheduleTest::firstIsNextAgain);
         section.sentence("Then the slot of the next entry begins: all of it happens at this tick, the entry behind it is"
