@@ -62,7 +62,8 @@ final class Check {
     }
 
     void end() {
-        System.out.println(wrong == 0 ? calls + " answers are as due" : wrong + " of " + calls + " answers are not as due");
+        System.out.println(wrong == 0
+            ? calls + " answers are as due" : wrong + " of " + calls + " answers are not as due");
         if (wrong != 0 || calls == 0) {
             System.exit(1);
         }

@@ -2,7 +2,7 @@
 public final class Promise04SporadicTest {
     private static final int NONE = HeaderSchedule.NONE;
 
-    /** Frames 0, 1, 2 of the master (headers 0x08, 0x0D, 0x11) with a signal each, and 3, 4, 5 of the slaves 1, 2, 3. */
+    /** Frames 0, 1, 2 of the master (headers 0x08, 0x0D, 0x11) and 3, 4, 5 of the slaves 1, 2, 3; a signal in each. */
     private static HeaderSchedule sixFrames() {
         HeaderSchedule x = new HeaderSchedule();
         int[] identifiers = {8, 13, 17, 20, 21, 22};

@@ -50,7 +50,7 @@ public final class Promise13NoiseTest {
         check.ticks(early, 0, 2, 2, 0, 1);
     }
 
-    /** Table 0 of the scene: after frame 0 come the group and the event frame, without a response when none is pending. */
+    /** After frame 0 come the group and the event frame, which have no response when none is pending. */
     private static void waitsOverSlotsWithoutOne(Check check) {
         HeaderSchedule x = Scenes.started();
         check.ticks(x, 1, 0);

@@ -57,7 +57,11 @@ final class Section {
         check.yes("the words stand in the document", isInTheText(words));
         check.yes("the words name one test alone", named.add(words));
         int before = check.calls();
-        test.accept(check);
+        try {
+            test.accept(check);
+        } catch (RuntimeException e) {
+            check.no("a call threw " + e, true);
+        }
         check.yes("the test looks at an answer", check.calls() > before);
         calls += check.calls();
         failed += check.wrong() == 0 ? 0 : 1;

@@ -209,8 +209,9 @@ public final class TermsFramesAndSignalsTest {
         section.sentence("bit j of a signal's value is bit offset + j of its frame.",
             TermsFramesAndSignalsTest::bitOfAValue);
         section.sentence("Signals of one frame have no bit in common.", TermsFramesAndSignalsTest::noBitInCommon);
-        section.sentence("The PROTECTED identifier of an identifier i with bits i0 (lowest) .. i5 is i + 64 * (i0 xor i1"
-            + " xor i2 xor i4) + 128 * (1 - (i1 xor i3 xor i4 xor i5)).", TermsFramesAndSignalsTest::protectedIdentifiers);
+        section.sentence("The PROTECTED identifier of an identifier i with bits i0 (lowest) .. i5 is i + 64 * (i0 xor"
+            + " i1 xor i2 xor i4) + 128 * (1 - (i1 xor i3 xor i4 xor i5)).",
+            TermsFramesAndSignalsTest::protectedIdentifiers);
         section.end();
     }
 }

@@ -2,7 +2,7 @@
 public final class TermsGroupsEventsTablesTest {
     private static final int NONE = HeaderSchedule.NONE;
 
-    /** Frames 0 .. 2 of the master, 3 .. 5 and 6, 7 of the slaves 1 .. 3 and 1, 2, all of 2 bytes, with a signal each. */
+    /** Frames 0 .. 2 of the master, 3 .. 5 and 6, 7 of the slaves 1 .. 3 and 1, 2, of 2 bytes, with a signal each. */
     private static HeaderSchedule eightFrames() {
         HeaderSchedule x = new HeaderSchedule();
         int[] publishers = {0, 0, 0, 1, 2, 3, 1, 2};

@@ -393,8 +393,8 @@ public final class TermsScheduleTest {
         section.sentence("At a boundary, in this order", TermsScheduleTest::inThisOrder);
         section.sentence("(4) when all entries of the present table were done, its first is next again.",
             TermsScheduleTest::firstIsNextAgain);
-        section.sentence("Then the slot of the next entry begins: all of it happens at this tick, the entry behind it is"
-            + " next", TermsScheduleTest::allOfItAtThisTick);
+        section.sentence("Then the slot of the next entry begins: all of it happens at this tick, the entry behind it"
+            + " is next", TermsScheduleTest::allOfItAtThisTick);
         section.sentence("the slot is under way for as many ticks as its delay says, this one included.",
             TermsScheduleTest::thisOneIncluded);
     }
@@ -406,8 +406,8 @@ public final class TermsScheduleTest {
         section.sentence("its response (there was one) was not valid", TermsScheduleTest::thereWasNone);
         section.sentence("when the latest slot was an event frame's", TermsScheduleTest::latestSlotWasAnEventFrames);
         section.sentence("the present table and its next entry are kept aside", TermsScheduleTest::keptAsideAtTheEnd);
-        section.sentence("(2) otherwise, when a resolving run is under way and all entries of its table were done, it is"
-            + " over, and what was kept aside is present and next again", TermsScheduleTest::allEntriesOfARunDone);
+        section.sentence("(2) otherwise, when a resolving run is under way and all entries of its table were done, it"
+            + " is over, and what was kept aside is present and next again", TermsScheduleTest::allEntriesOfARunDone);
         section.sentence("all entries of its table were done, it is over", TermsScheduleTest::notValidInARun);
         section.sentence("what was kept aside is present and next again", TermsScheduleTest::runAfterRun);
         section.sentence("a RESOLVING RUN", TermsScheduleTest::sleepInARun);

@@ -45,7 +45,8 @@ final class Twins {
 
     private void sameAfterwards(String refused, HeaderSchedule x, HeaderSchedule untouched) {
         for (Step step : AFTERWARDS) {
-            check.due(step.call + " after the refused " + refused, step.on.applyAsInt(x), step.on.applyAsInt(untouched));
+            int want = step.on.applyAsInt(untouched);
+            check.due(step.call + " after the refused " + refused, step.on.applyAsInt(x), want);
         }
     }
 
