@@ -54,7 +54,7 @@ final class Twins {
         return answer ? 1 : 0;
     }
 
-    /** Some 330 calls, so that an object of at most 180 calls stays within its 512. */
+    /** Some 300 calls, so that an object of at most 200 calls stays within its 512. */
     private static List<Step> afterwards() {
         List<Step> steps = new ArrayList<>();
         look(steps);
